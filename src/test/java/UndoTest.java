@@ -1,0 +1,218 @@
+/** Promises 44 to 46: undo, save and restore. */
+public final class UndoTest {
+    public static void main(String[] args) {
+        promise44UndoEachCall();
+        promise44AtMostEight();
+        promise44AfterUndo();
+        promise44NothingDifferent();
+        promise44FailedCallsAreNotUndone();
+        promise45Save();
+        promise46Restore();
+        promises44To46LeaveTheTexts();
+        promises45And46WithUndo();
+        Check.end("UndoTest");
+    }
+
+    private static TerraceQuarry busyQuarry() {
+        TerraceQuarry q = new TerraceQuarry();
+        q.setStepLimit(4);
+        q.addWinch(2, 2, 9, 6);
+        q.setStone(0, 0, 3);
+        q.cut(0, 0);
+        q.setStone(0, 0, 1);
+        q.cut(0, 0);
+        q.lift(0, 0, 0);
+        q.cut(4, 4);
+        return q;
+    }
+
+    private static void undone(TerraceQuarry q, Check.Call call) {
+        String before = Check.stateOf(q);
+        call.answer();
+        int left = q.undo();
+        Check.due(before, () -> Check.stateOf(q));
+        Check.due(7, () -> left);
+        // The call is done again, so that the next one starts from another state with a full history.
+        call.answer();
+    }
+
+    private static void promise44UndoEachCall() {
+        TerraceQuarry q = busyQuarry();
+        undone(q, () -> q.setStone(1, 1, 2));
+        undone(q, () -> q.cut(0, 0));
+        undone(q, () -> q.lift(0, 0, 0));
+        undone(q, () -> q.crush(1, 1));
+        undone(q, () -> q.fill(1, 1));
+        undone(q, () -> q.toggleLedge(0, 0));
+        undone(q, () -> q.setStepLimit(3));
+        undone(q, () -> q.addWinch(0, 0, 4, 2));
+        undone(q, () -> q.toggleLedge(0, 0));
+        undone(q, () -> q.lift(0, 0, 0));
+        undone(q, () -> Check.run(q, "winch 44 4 4;lift 2 44;crush 0 1;stone 442;limit 4;cut 44"));
+        Check.due(true, q::isConsistent);
+    }
+
+    private static void promise44AtMostEight() {
+        TerraceQuarry q = new TerraceQuarry();
+        Check.due(Check.STATE, q::undo);
+        for (int column = 0; column < 5; column++) {
+            q.cut(0, column);
+            q.cut(2, column);
+        }
+        for (int left = 7; left >= 0; left--) {
+            int want = left;
+            Check.due(want, q::undo);
+        }
+        Check.due(Check.STATE, q::undo);
+        Check.due("5a. 6a 6a 6a 6a 6a", () -> Check.line(q, 0));
+        Check.due("5a. 6a 6a 6a 6a 6a", () -> Check.line(q, 2));
+        Check.due(2, q::cutTotal);
+    }
+
+    private static void promise44AfterUndo() {
+        TerraceQuarry q = new TerraceQuarry();
+        for (int column = 0; column < 6; column++) {
+            q.cut(0, column);
+        }
+        Check.due(5, q::undo);
+        Check.due(4, q::undo);
+        q.cut(3, 3);
+        Check.due(4, q::undo);
+        Check.due("5a. 5a. 5a. 5a. 6a 6a", () -> Check.line(q, 0));
+        Check.due(6, () -> q.height(3, 3));
+        Check.due(3, q::undo);
+        Check.due("5a. 5a. 5a. 6a 6a 6a", () -> Check.line(q, 0));
+        for (int column = 0; column < 6; column++) {
+            q.setStone(4, column, 1);
+        }
+        Check.due(7, q::undo);
+        for (int left = 6; left >= 0; left--) {
+            int want = left;
+            Check.due(want, q::undo);
+        }
+        Check.due("5a. 6a 6a 6a 6a 6a", () -> Check.line(q, 0));
+        Check.due(Check.STATE, q::undo);
+    }
+
+    private static void promise44NothingDifferent() {
+        TerraceQuarry q = new TerraceQuarry();
+        q.cut(0, 0);
+        q.setStone(0, 0, 0);
+        q.setStepLimit(1);
+        Check.run(q, "ledge 00;ledge 00");
+        Check.due(3, q::undo);
+        Check.due(2, q::undo);
+        Check.due(1, q::undo);
+        Check.due(5, () -> q.height(0, 0));
+        Check.due(0, q::undo);
+        Check.due(6, () -> q.height(0, 0));
+        Check.due(0, q::cutTotal);
+        Check.due(Check.ARITHMETIC, q::liftedShare);
+    }
+
+    private static void promise44FailedCallsAreNotUndone() {
+        TerraceQuarry q = new TerraceQuarry();
+        q.cut(0, 0);
+        Check.answerOf(() -> q.setStone(0, 0, 4));
+        Check.answerOf(() -> q.cut(0, 0));
+        Check.answerOf(() -> q.fill(0, 0));
+        Check.answerOf(() -> q.toggleLedge(5, 5));
+        Check.answerOf(() -> q.setStepLimit(5));
+        Check.answerOf(() -> q.addWinch(0, 0, 1, 1));
+        Check.answerOf(() -> q.lift(0, 0, 0));
+        Check.answerOf(() -> q.crush(0, 1));
+        Check.answerOf(() -> Check.run(q, "cut 11;cut 11"));
+        Check.answerOf(() -> Check.run(q, "cut 11;cut"));
+        q.height(0, 0);
+        q.canCut(0, 0);
+        q.writeRow(0);
+        q.append('c');
+        q.save();
+        Check.due(0, q::undo);
+        Check.due(6, () -> q.height(0, 0));
+        Check.due(Check.STATE, q::undo);
+    }
+
+    private static Object restored(TerraceQuarry q) {
+        q.restore();
+        return Check.stateOf(q);
+    }
+
+    private static void promise45Save() {
+        TerraceQuarry q = busyQuarry();
+        q.save();
+        String first = Check.stateOf(q);
+        q.cut(1, 1);
+        q.addWinch(1, 1, 4, 4);
+        Check.due(first, () -> restored(q));
+        q.toggleLedge(2, 2);
+        q.crush(1, 1);
+        q.setStepLimit(3);
+        q.save();
+        String second = Check.stateOf(q);
+        q.fill(3, 3);
+        q.lift(0, 0, 0);
+        Check.due(second, () -> restored(q));
+        Check.due(false, () -> first.equals(second));
+        Check.due(true, q::isConsistent);
+    }
+
+    private static void promise46Restore() {
+        TerraceQuarry q = new TerraceQuarry();
+        Check.due(Check.STATE, () -> restored(q));
+        String empty = Check.stateOf(q);
+        q.save();
+        q.cut(0, 0);
+        q.cut(2, 2);
+        Check.due(empty, () -> restored(q));
+        Check.due(Check.STATE, q::undo);
+        q.cut(0, 0);
+        Check.due(empty, () -> restored(q));
+        Check.due(empty, () -> restored(q));
+        Check.due(Check.STATE, q::undo);
+        q.cut(3, 3);
+        q.cut(3, 1);
+        Check.due(1, q::undo);
+        Check.due(0, q::undo);
+        Check.due(empty, () -> Check.stateOf(q));
+        Check.due(Check.STATE, q::undo);
+    }
+
+    private static void promises44To46LeaveTheTexts() {
+        TerraceQuarry q = new TerraceQuarry();
+        q.cut(0, 0);
+        q.save();
+        q.writeRow(0);
+        Check.type(q, "cut");
+        q.undo();
+        Check.due('5', () -> q.outputAt(0));
+        Check.due(4, () -> q.append(' '));
+        q.restore();
+        Check.due('5', () -> q.outputAt(0));
+        Check.due(18, () -> q.writeRow(0));
+        Check.due(5, () -> q.append('1'));
+        Check.due(6, () -> q.append('1'));
+        Check.due(1, q::run);
+        Check.due(5, () -> q.height(1, 1));
+        Check.due(0, q::undo);
+        Check.due(1, () -> q.append('c'));
+    }
+
+    private static void promises45And46WithUndo() {
+        TerraceQuarry q = new TerraceQuarry();
+        q.cut(0, 0);
+        q.cut(2, 2);
+        q.save();
+        String saved = Check.stateOf(q);
+        Check.due(1, q::undo);
+        Check.due(0, q::undo);
+        Check.due(6, () -> q.height(0, 0));
+        Check.due(saved, () -> restored(q));
+        Check.due(Check.STATE, q::undo);
+        for (int column = 0; column < 6; column++) {
+            q.cut(4, column);
+        }
+        q.save();
+        Check.due(5, q::undo);
+    }
+}

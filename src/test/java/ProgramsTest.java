@@ -215,6 +215,7 @@ public final class ProgramsTest {
         failsAt(0, "cut 99");
         failsAt(0, "fill 06");
         failsAt(0, "ledge 50");
+        failsAt(0, "ledge 06");
         failsAt(0, "limit 0");
         failsAt(0, "limit 5");
         failsAt(0, "winch 60 9 6");

@@ -223,7 +223,9 @@ public final class QueriesTest {
         Check.due(1, () -> q.seamSize(0, 1));
         Check.due(4, () -> q.seamVolume(0, 1));
         q.fill(0, 0);
+        Check.due(28, () -> q.seamSize(0, 1));
         Check.due(28, () -> q.seamSize(0, 0));
+        Check.due(1 + 4 + 4 + 25 * 6, () -> q.seamVolume(0, 0));
         seams(q, 3);
     }
 
@@ -286,6 +288,10 @@ public final class QueriesTest {
         q.addWinch(0, 0, 2, 2);
         q.addWinch(4, 5, 5, 6);
         Check.due(2, q::winchCount);
+        Check.due(0, () -> q.liftableCells(0));
+        q.cut(0, 0);
+        Check.due(1, () -> q.liftableCells(0));
+        q.lift(0, 0, 0);
         Check.due(0, () -> q.liftableCells(0));
         q.cut(0, 2);
         q.cut(1, 2);

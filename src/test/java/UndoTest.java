@@ -8,6 +8,7 @@ public final class UndoTest {
         promise44FailedCallsAreNotUndone();
         promise45Save();
         promise46Restore();
+        promise46RestoreOtherWinches();
         promises44To46LeaveTheTexts();
         promises45And46WithUndo();
         Check.end("UndoTest");
@@ -176,6 +177,27 @@ public final class UndoTest {
         Check.due(0, q::undo);
         Check.due(empty, () -> Check.stateOf(q));
         Check.due(Check.STATE, q::undo);
+    }
+
+    /** Undo takes the saved winch away, so that another one can stand in its stead. */
+    private static void promise46RestoreOtherWinches() {
+        TerraceQuarry q = new TerraceQuarry();
+        q.cut(0, 3);
+        q.setStone(2, 2, 3);
+        q.cut(2, 2);
+        q.addWinch(2, 2, 5, 4);
+        q.save();
+        String saved = Check.stateOf(q);
+        q.undo();
+        q.addWinch(0, 0, 2, 2);
+        Check.due(0, () -> q.liftableCells(0));
+        Check.due("6a^ 6a 6a 5a. 6a 6a", () -> Check.line(q, 0));
+        Check.due(saved, () -> restored(q));
+        Check.due("6a 6a 6a 5a. 6a 6a", () -> Check.line(q, 0));
+        Check.due("6a 6a 5d^. 6a 6a 6a", () -> Check.line(q, 2));
+        Check.due(2, () -> q.liftableCells(0));
+        Check.due(25, () -> q.lift(0, 2, 2));
+        Check.due(10, () -> q.lift(0, 0, 3));
     }
 
     private static void promises44To46LeaveTheTexts() {

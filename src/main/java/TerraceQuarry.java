@@ -392,16 +392,18 @@ public final class TerraceQuarry {
             return Math.abs(rowOf(cell) - rowOf(other)) + Math.abs(columnOf(cell) - columnOf(other));
         }
 
+        /** The last column of a row and the first one of the next row are no neighbours, though their numbers are. */
         static int neighbour(int cell, int direction) {
+            int column = cell % COLUMNS;
             switch (direction) {
                 case 0:
-                    return rowOf(cell) > 0 ? cell - COLUMNS : NO_CELL;
+                    return cell >= COLUMNS ? cell - COLUMNS : NO_CELL;
                 case 1:
-                    return columnOf(cell) > 0 ? cell - 1 : NO_CELL;
+                    return column > 0 ? cell - 1 : NO_CELL;
                 case 2:
-                    return columnOf(cell) < COLUMNS - 1 ? cell + 1 : NO_CELL;
+                    return column < COLUMNS - 1 ? cell + 1 : NO_CELL;
                 case 3:
-                    return rowOf(cell) < ROWS - 1 ? cell + COLUMNS : NO_CELL;
+                    return cell < CELLS - COLUMNS ? cell + COLUMNS : NO_CELL;
                 default:
                     return NO_CELL;
             }
@@ -674,7 +676,7 @@ public final class TerraceQuarry {
 
         boolean stepsWithin(int most) {
             for (int cell = 0; cell < Grid.CELLS; cell++) {
-                if (steepestAt(cell) > most) {
+                if (steepestFrom(cell, heights[cell]) > most) {
                     return false;
                 }
             }

